@@ -79,7 +79,8 @@ public final class TaxEngine {
 
     public int value(int line) throws IndexOutOfBoundsException {
         checkLine(line);
-        return valueNow(line);
+        values.workOut(NONE);
+        return values.of(line);
     }
 
     public int boundFor(int line, int value) throws IndexOutOfBoundsException, IllegalArgumentException, IllegalStateException {
@@ -195,27 +196,25 @@ public final class TaxEngine {
     public int creditAt(int line, int place) throws IndexOutOfBoundsException {
         checkLine(line);
         checkPlace(place >= 0 && place < credits.size());
-        credits.findBest(valueNow(line));
+        values.workOut(NONE);
+        credits.findBest(values.of(line));
         return credits.bestAt(place);
     }
 
     public int afterCredits(int line) throws IndexOutOfBoundsException {
         checkLine(line);
-        int tax = valueNow(line);
+        values.workOut(NONE);
+        int tax = values.of(line);
         return tax - Math.min(tax, credits.total());
     }
 
     public int bestSum(int line) throws IndexOutOfBoundsException {
         checkLine(line);
-        return credits.findBest(valueNow(line));
+        values.workOut(NONE);
+        return credits.findBest(values.of(line));
     }
 
     // ---- helpers
-
-    private int valueNow(int line) {
-        values.workOut(NONE);
-        return values.of(line);
-    }
 
     private static void checkLine(int line) {
         checkPlace(isWithin(line, 0, LINES - 1));
@@ -335,7 +334,9 @@ public final class TaxEngine {
             placed = 0;
             for (int round = 0; round < LINES && placed != ALL_LINES; round++) {
                 for (int line = 0; line < LINES; line++) {
-                    if (isReady(line) && !placeGroup(sheet, line)) {
+                    if (isReady(line) && !isCircular(line)) {
+                        place(line);
+                    } else if (isReady(line) && !placeCircle(sheet, groupOf(line))) {
                         return false;
                     }
                 }
@@ -402,14 +403,6 @@ public final class TaxEngine {
             put(order, size, line);
             size++;
             placed |= bit(line);
-        }
-
-        private boolean placeGroup(Sheet sheet, int line) {
-            if (isCircular(line)) {
-                return placeCircle(sheet, groupOf(line));
-            }
-            place(line);
-            return true;
         }
 
         private boolean placeCircle(Sheet sheet, int group) {

@@ -7,6 +7,7 @@ public final class CirclesTest {
         value();
         valueWithAnyKind();
         valueAtTheEdges();
+        valueAtTheEdgeLines();
         severalCircles();
         boundFor();
         boundForRefuses();
@@ -91,6 +92,32 @@ public final class CirclesTest {
         x.define(13, TaxEngine.SHARE, 11, 1);
         Checks.due("a thousandth", x.value(11), 999000999);
         Checks.due("bound for one more", x.boundFor(11, 999001000), 999000999);
+    }
+
+    private static void valueAtTheEdgeLines() {
+        TaxEngine x = new TaxEngine();
+        x.answer(5, 90);
+        x.answer(6, 1000);
+        x.define(0, TaxEngine.REST, 5, 15);
+        x.define(15, TaxEngine.LIMIT, 6, 0);
+        Checks.due("line 0 is the rest", x.value(15), 45);
+        Checks.due("line 0 depends on itself", x.dependsOn(0, 0), true);
+        x.define(7, TaxEngine.REST, 5, 15);
+        x.define(0, TaxEngine.SHARE, 7, 500);
+        Checks.due("line 0 is between", x.value(15), 30);
+        x.define(15, TaxEngine.LIMIT, 6, 7);
+        x.define(0, TaxEngine.SUM, 15, 15);
+        x.define(7, TaxEngine.REST, 5, 0);
+        Checks.due("line 0 rises", x.value(15), 30);
+        Checks.due("line 0 by that", x.value(0), 60);
+        x.define(0, TaxEngine.INPUT, 0, 0);
+        x.define(15, TaxEngine.REST, 5, 0);
+        x.define(0, TaxEngine.LIMIT, 6, 15);
+        Checks.due("line 0 is the limit", x.value(0), 45);
+        Checks.due("line 15 is the rest", x.value(15), 45);
+        x.answer(5, 91);
+        Checks.due("the limit is rounded down", x.value(0), 45);
+        Checks.due("the rest is one more", x.value(15), 46);
     }
 
     private static void severalCircles() {

@@ -118,8 +118,8 @@ public final class CreditsTest {
         order("4 of the other", x, 0, 0, 1);
         Checks.due("3 + 1, and 3 halves", x.bestSum(0), 5);
         x.addCredit(4, 499);
-        Checks.due("of the last one, what is lost least", x.bestSum(0), 4 + 1 + 2);
-        order("it is used up to where nothing is lost", x, 0, 0, 2, 1);
+        Checks.due("4 used, halves kept", x.bestSum(0), 4 + 1 + 2);
+        order("the lowest of the orders that lose least", x, 0, 0, 2, 1);
     }
 
     private static void creditAtRefuses() {
@@ -143,6 +143,8 @@ public final class CreditsTest {
         Checks.due("much is left", x.afterCredits(0), MILLION - 160);
         x.define(15, TaxEngine.SUM, 0, 0);
         Checks.due("of two millions", x.afterCredits(15), 2 * MILLION - 160);
+        x.dropCredit();
+        Checks.due("one credit is dropped", x.afterCredits(0), MILLION - 130);
         Checks.noLine("line 16", CreditsTest::three, y -> y.afterCredits(16));
         Checks.noLine("line -1", CreditsTest::three, y -> y.afterCredits(-1));
     }
