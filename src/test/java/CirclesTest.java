@@ -23,17 +23,8 @@ public final class CirclesTest {
         Checks.end();
     }
 
-    /** A limit that is half of what is left: 2 = LIMIT(1, 4), 3 = 0 less 2, 4 = half of 3. */
-    private static void half(TaxEngine x) {
-        x.answer(0, 1000);
-        x.answer(1, 900);
-        x.define(3, TaxEngine.REST, 0, 2);
-        x.define(4, TaxEngine.SHARE, 3, 500);
-        x.define(2, TaxEngine.LIMIT, 1, 4);
-    }
-
     private static void value() {
-        TaxEngine x = Checks.made(CirclesTest::half);
+        TaxEngine x = Checks.made(Samples::half);
         Checks.due("third", x.value(2), 333);
         Checks.due("rest", x.value(3), 667);
         Checks.due("half of the rest", x.value(4), 333);
@@ -143,7 +134,7 @@ public final class CirclesTest {
     }
 
     private static void boundFor() {
-        TaxEngine x = Checks.made(CirclesTest::half);
+        TaxEngine x = Checks.made(Samples::half);
         int[][] bounds = {{0, 500}, {1, 499}, {2, 499}, {333, 333}, {334, 333}, {998, 1}, {999, 0}, {1000, 0}, {BILLION, 0}};
         for (int[] each : bounds) {
             Checks.due("bound for " + each[0], x.boundFor(2, each[0]), each[1]);
@@ -166,21 +157,21 @@ public final class CirclesTest {
     }
 
     private static void boundForRefuses() {
-        Checks.noLine("line 16", CirclesTest::half, x -> x.boundFor(16, 0));
-        Checks.noLine("line before value", CirclesTest::half, x -> x.boundFor(-1, -1));
-        Checks.badArgument("value -1", CirclesTest::half, x -> x.boundFor(2, -1));
-        Checks.badArgument("value too great", CirclesTest::half, x -> x.boundFor(2, BILLION + 1));
-        Checks.badArgument("value before kind", CirclesTest::half, x -> x.boundFor(3, -1));
+        Checks.noLine("line 16", Samples::half, x -> x.boundFor(16, 0));
+        Checks.noLine("line before value", Samples::half, x -> x.boundFor(-1, -1));
+        Checks.badArgument("value -1", Samples::half, x -> x.boundFor(2, -1));
+        Checks.badArgument("value too great", Samples::half, x -> x.boundFor(2, BILLION + 1));
+        Checks.badArgument("value before kind", Samples::half, x -> x.boundFor(3, -1));
         for (int line = 0; line < 16; line++) {
             int each = line;
             if (line != 2) {
-                Checks.badState("no limit " + line, CirclesTest::half, x -> x.boundFor(each, 0));
+                Checks.badState("no limit " + line, Samples::half, x -> x.boundFor(each, 0));
             }
         }
     }
 
     private static void allowed() {
-        TaxEngine x = Checks.made(CirclesTest::half);
+        TaxEngine x = Checks.made(Samples::half);
         x.define(5, TaxEngine.SUM, 3, 3);
         x.define(4, TaxEngine.SHARE, 5, 500);
         Checks.due("the same falling line twice", x.value(2), 500);
@@ -204,11 +195,11 @@ public final class CirclesTest {
     private static void withoutLimit() {
         int[] kinds = {TaxEngine.SUM, TaxEngine.REST, TaxEngine.LESSER, TaxEngine.GREATER, TaxEngine.SHARE, TaxEngine.TAX, TaxEngine.CARRY};
         for (int kind : kinds) {
-            Checks.badState("of itself", CirclesTest::half, x -> x.define(15, kind, 15, 0));
+            Checks.badState("of itself", Samples::half, x -> x.define(15, kind, 15, 0));
             Checks.badState("of two", x -> x.define(14, TaxEngine.SUM, 0, 15), x -> x.define(15, kind, 14, 0));
-            Checks.badState("instead of the limit", CirclesTest::half, x -> x.define(2, kind, 4, 4));
+            Checks.badState("instead of the limit", Samples::half, x -> x.define(2, kind, 4, 4));
         }
-        Checks.badState("second operand", CirclesTest::half, x -> x.define(15, TaxEngine.REST, 0, 15));
+        Checks.badState("second operand", Samples::half, x -> x.define(15, TaxEngine.REST, 0, 15));
         Checks.badState("of all lines", CirclesTest::chain, x -> x.define(15, TaxEngine.SHARE, 0, 1000));
         TaxEngine x = Checks.made(CirclesTest::chain);
         x.define(15, TaxEngine.SHARE, 14, 0);
@@ -226,7 +217,7 @@ public final class CirclesTest {
     }
 
     private static void twoLimits() {
-        Checks.badState("both firsts outside", CirclesTest::half, x -> x.define(3, TaxEngine.LIMIT, 0, 2));
+        Checks.badState("both firsts outside", Samples::half, x -> x.define(3, TaxEngine.LIMIT, 0, 2));
         Checks.badState("first of the other one inside", x -> {
             x.answer(0, 10);
             x.define(2, TaxEngine.REST, 0, 1);
@@ -234,7 +225,7 @@ public final class CirclesTest {
             x.define(1, TaxEngine.LIMIT, 0, 3);
         }, x -> x.define(3, TaxEngine.LIMIT, 2, 0));
         Checks.badState("joined circles", x -> {
-            CirclesTest.half(x);
+            Samples.half(x);
             x.define(6, TaxEngine.LIMIT, 0, 7);
             x.define(7, TaxEngine.REST, 8, 6);
             x.define(8, TaxEngine.SUM, 0, 4);
@@ -242,54 +233,54 @@ public final class CirclesTest {
     }
 
     private static void firstOfTheCircle() {
-        Checks.badState("first is of the circle", CirclesTest::half, x -> x.define(2, TaxEngine.LIMIT, 4, 4));
-        Checks.badState("first is of the circle", CirclesTest::half, x -> x.define(2, TaxEngine.LIMIT, 3, 4));
-        Checks.badState("first is the line", CirclesTest::half, x -> x.define(2, TaxEngine.LIMIT, 2, 0));
-        Checks.badState("first uses the line", CirclesTest::half, x -> x.define(2, TaxEngine.LIMIT, 4, 0));
-        Checks.badState("first gets to use the line", CirclesTest::half, x -> x.define(1, TaxEngine.SHARE, 3, 10));
+        Checks.badState("first is of the circle", Samples::half, x -> x.define(2, TaxEngine.LIMIT, 4, 4));
+        Checks.badState("first is of the circle", Samples::half, x -> x.define(2, TaxEngine.LIMIT, 3, 4));
+        Checks.badState("first is the line", Samples::half, x -> x.define(2, TaxEngine.LIMIT, 2, 0));
+        Checks.badState("first uses the line", Samples::half, x -> x.define(2, TaxEngine.LIMIT, 4, 0));
+        Checks.badState("first gets to use the line", Samples::half, x -> x.define(1, TaxEngine.SHARE, 3, 10));
     }
 
     private static void innerCircle() {
         Checks.badState("an inner circle", x -> {
-            CirclesTest.half(x);
+            Samples.half(x);
             x.define(5, TaxEngine.SUM, 3, 0);
             x.define(4, TaxEngine.SUM, 3, 5);
         }, x -> x.define(5, TaxEngine.SUM, 3, 4));
-        Checks.badState("a line of the circle of itself", CirclesTest::half, x -> x.define(4, TaxEngine.LESSER, 3, 4));
+        Checks.badState("a line of the circle of itself", Samples::half, x -> x.define(4, TaxEngine.LESSER, 3, 4));
     }
 
     private static void directions() {
         int[] kinds = {TaxEngine.SUM, TaxEngine.LESSER, TaxEngine.GREATER};
         for (int kind : kinds) {
-            Checks.badState("rises and falls", CirclesTest::half, x -> x.define(4, kind, 3, 2));
-            Checks.badState("rises and falls", CirclesTest::half, x -> x.define(4, kind, 2, 3));
+            Checks.badState("rises and falls", Samples::half, x -> x.define(4, kind, 3, 2));
+            Checks.badState("rises and falls", Samples::half, x -> x.define(4, kind, 2, 3));
         }
-        TaxEngine x = Checks.made(CirclesTest::half);
+        TaxEngine x = Checks.made(Samples::half);
         x.define(4, TaxEngine.REST, 3, 2);
         Checks.due("falls twice: x <= 1000 - 2x", x.value(2), 333);
-        Checks.badState("rises twice", CirclesTest::half, y -> y.define(4, TaxEngine.REST, 2, 3));
-        Checks.badState("less itself", CirclesTest::half, y -> y.define(4, TaxEngine.REST, 3, 3));
+        Checks.badState("rises twice", Samples::half, y -> y.define(4, TaxEngine.REST, 2, 3));
+        Checks.badState("less itself", Samples::half, y -> y.define(4, TaxEngine.REST, 3, 3));
         Checks.badState("rises and falls aside of the second", y -> {
-            CirclesTest.half(y);
+            Samples.half(y);
             y.define(5, TaxEngine.LESSER, 0, 2);
             y.define(4, TaxEngine.SUM, 3, 6);
         }, y -> y.define(6, TaxEngine.SHARE, 5, 0));
         Checks.badState("a line outside that joins", y -> {
-            CirclesTest.half(y);
+            Samples.half(y);
             y.define(5, TaxEngine.SUM, 2, 3);
         }, y -> y.define(4, TaxEngine.SUM, 3, 5));
     }
 
     private static void secondDoesNotFall() {
-        Checks.badState("the line itself", CirclesTest::half, x -> x.define(15, TaxEngine.LIMIT, 0, 15));
-        Checks.badState("the second rises", CirclesTest::half, x -> x.define(3, TaxEngine.SUM, 0, 2));
-        Checks.badState("the second rises", CirclesTest::half, x -> x.define(3, TaxEngine.REST, 2, 0));
-        Checks.badState("turned twice", CirclesTest::half, x -> x.define(4, TaxEngine.REST, 0, 3));
-        Checks.badState("a share of nothing rises too", CirclesTest::half, x -> x.define(3, TaxEngine.SHARE, 2, 0));
+        Checks.badState("the line itself", Samples::half, x -> x.define(15, TaxEngine.LIMIT, 0, 15));
+        Checks.badState("the second rises", Samples::half, x -> x.define(3, TaxEngine.SUM, 0, 2));
+        Checks.badState("the second rises", Samples::half, x -> x.define(3, TaxEngine.REST, 2, 0));
+        Checks.badState("turned twice", Samples::half, x -> x.define(4, TaxEngine.REST, 0, 3));
+        Checks.badState("a share of nothing rises too", Samples::half, x -> x.define(3, TaxEngine.SHARE, 2, 0));
     }
 
     private static void influenceAndWhy() {
-        TaxEngine x = Checks.made(CirclesTest::half);
+        TaxEngine x = Checks.made(Samples::half);
         Checks.due("the rest and its half follow", x.influence(0), 3);
         Checks.due("influence of 1", x.influence(1), 1);
         LinesTest.row(x, 2, 2, 4, 3, 0);
@@ -307,7 +298,7 @@ public final class CirclesTest {
         x.answer(1, 334);
         x.answer(0, 2000);
         LinesTest.row(x, 2, 2, 1);
-        TaxEngine y = Checks.made(CirclesTest::half);
+        TaxEngine y = Checks.made(Samples::half);
         y.answer(1, 5);
         y.answer(0, 9);
         y.define(4, TaxEngine.SUM, 3, 0);

@@ -22,28 +22,6 @@ public final class LinesTest {
         Checks.end();
     }
 
-    /** An engine in which every kind stands. */
-    static void sample(TaxEngine x) {
-        x.answer(0, 1000);
-        x.answer(1, 300);
-        x.answer(15, 77);
-        x.bracket(0, 100);
-        x.bracket(500, 200);
-        x.carry(150, 3);
-        x.carry(40, 1);
-        x.addCredit(50, 0);
-        x.addCredit(80, 500);
-        x.define(2, TaxEngine.REST, 0, 1);
-        x.define(3, TaxEngine.TAX, 2, 0);
-        x.define(4, TaxEngine.SHARE, 0, 250);
-        x.define(5, TaxEngine.LESSER, 4, 3);
-        x.define(6, TaxEngine.GREATER, 4, 3);
-        x.define(7, TaxEngine.SUM, 5, 6);
-        x.define(8, TaxEngine.CARRY, 7, 0);
-        x.define(9, TaxEngine.LIMIT, 0, 10);
-        x.define(10, TaxEngine.REST, 1, 9);
-    }
-
     private static void newObject() {
         TaxEngine x = new TaxEngine();
         for (int line = 0; line < 16; line++) {
@@ -70,8 +48,8 @@ public final class LinesTest {
             x.define(0, kind, 15, HIGHEST);
             x.define(15, kind, 1, LOWEST);
             Checks.due("second has no meaning", x.dependsOn(0, 1), true);
-            Checks.noLine("first is a line", LinesTest::sample, y -> y.define(0, kind, 16, 0));
-            Checks.noLine("first is a line", LinesTest::sample, y -> y.define(15, kind, -1, 0));
+            Checks.noLine("first is a line", Samples::everyKind, y -> y.define(0, kind, 16, 0));
+            Checks.noLine("first is a line", Samples::everyKind, y -> y.define(15, kind, -1, 0));
         }
         int[] twoLines = {TaxEngine.SUM, TaxEngine.REST, TaxEngine.LESSER, TaxEngine.GREATER, TaxEngine.LIMIT};
         for (int kind : twoLines) {
@@ -79,32 +57,32 @@ public final class LinesTest {
             x.define(0, kind, 15, 14);
             Checks.due("uses first", x.dependsOn(0, 15), true);
             Checks.due("uses second", x.dependsOn(0, 14), true);
-            Checks.noLine("first is a line", LinesTest::sample, y -> y.define(0, kind, 16, 0));
-            Checks.noLine("first is a line", LinesTest::sample, y -> y.define(0, kind, LOWEST, 1));
-            Checks.noLine("second is a line", LinesTest::sample, y -> y.define(0, kind, 1, 16));
-            Checks.noLine("second is a line", LinesTest::sample, y -> y.define(0, kind, 1, -1));
+            Checks.noLine("first is a line", Samples::everyKind, y -> y.define(0, kind, 16, 0));
+            Checks.noLine("first is a line", Samples::everyKind, y -> y.define(0, kind, LOWEST, 1));
+            Checks.noLine("second is a line", Samples::everyKind, y -> y.define(0, kind, 1, 16));
+            Checks.noLine("second is a line", Samples::everyKind, y -> y.define(0, kind, 1, -1));
         }
         TaxEngine x = new TaxEngine();
         x.define(3, TaxEngine.INPUT, LOWEST, HIGHEST);
         x.define(4, TaxEngine.SHARE, 5, 3);
         Checks.due("a share is no line", x.dependsOn(4, 3), false);
-        Checks.noLine("first of SHARE", LinesTest::sample, y -> y.define(0, TaxEngine.SHARE, 16, 0));
+        Checks.noLine("first of SHARE", Samples::everyKind, y -> y.define(0, TaxEngine.SHARE, 16, 0));
     }
 
     private static void defineRefuses() {
-        Checks.noLine("line 16", LinesTest::sample, x -> x.define(16, 0, 0, 0));
-        Checks.noLine("line -1", LinesTest::sample, x -> x.define(-1, 0, 0, 0));
-        Checks.noLine("line before kind", LinesTest::sample, x -> x.define(16, 9, 0, 0));
-        Checks.noLine("first before share", LinesTest::sample, x -> x.define(0, TaxEngine.SHARE, -1, 1001));
-        Checks.noLine("second before circle", LinesTest::sample, x -> x.define(0, TaxEngine.SUM, 0, 16));
-        Checks.badArgument("kind 9", LinesTest::sample, x -> x.define(0, 9, 0, 0));
-        Checks.badArgument("kind -1", LinesTest::sample, x -> x.define(0, -1, 99, -99));
-        Checks.badArgument("kind lowest", LinesTest::sample, x -> x.define(15, LOWEST, 16, 16));
-        Checks.badArgument("share 1001", LinesTest::sample, x -> x.define(0, TaxEngine.SHARE, 1, 1001));
-        Checks.badArgument("share -1", LinesTest::sample, x -> x.define(0, TaxEngine.SHARE, 1, -1));
-        Checks.badArgument("share before circle", LinesTest::sample, x -> x.define(0, TaxEngine.SHARE, 0, 1001));
-        Checks.badState("circle", LinesTest::sample, x -> x.define(0, TaxEngine.SHARE, 0, 1000));
-        Checks.badState("circle", LinesTest::sample, x -> x.define(1, TaxEngine.SUM, 7, 0));
+        Checks.noLine("line 16", Samples::everyKind, x -> x.define(16, 0, 0, 0));
+        Checks.noLine("line -1", Samples::everyKind, x -> x.define(-1, 0, 0, 0));
+        Checks.noLine("line before kind", Samples::everyKind, x -> x.define(16, 9, 0, 0));
+        Checks.noLine("first before share", Samples::everyKind, x -> x.define(0, TaxEngine.SHARE, -1, 1001));
+        Checks.noLine("second before circle", Samples::everyKind, x -> x.define(0, TaxEngine.SUM, 0, 16));
+        Checks.badArgument("kind 9", Samples::everyKind, x -> x.define(0, 9, 0, 0));
+        Checks.badArgument("kind -1", Samples::everyKind, x -> x.define(0, -1, 99, -99));
+        Checks.badArgument("kind lowest", Samples::everyKind, x -> x.define(15, LOWEST, 16, 16));
+        Checks.badArgument("share 1001", Samples::everyKind, x -> x.define(0, TaxEngine.SHARE, 1, 1001));
+        Checks.badArgument("share -1", Samples::everyKind, x -> x.define(0, TaxEngine.SHARE, 1, -1));
+        Checks.badArgument("share before circle", Samples::everyKind, x -> x.define(0, TaxEngine.SHARE, 0, 1001));
+        Checks.badState("circle", Samples::everyKind, x -> x.define(0, TaxEngine.SHARE, 0, 1000));
+        Checks.badState("circle", Samples::everyKind, x -> x.define(1, TaxEngine.SUM, 7, 0));
     }
 
     private static void answers() {
@@ -126,23 +104,23 @@ public final class LinesTest {
     }
 
     private static void answerRefuses() {
-        Checks.noLine("answer 16", LinesTest::sample, x -> x.answer(16, 0));
-        Checks.noLine("answer -1", LinesTest::sample, x -> x.answer(-1, MILLION + 1));
-        Checks.badArgument("answer too great", LinesTest::sample, x -> x.answer(0, MILLION + 1));
-        Checks.badArgument("answer negative", LinesTest::sample, x -> x.answer(15, -1));
-        Checks.badArgument("answer lowest", LinesTest::sample, x -> x.answer(15, LOWEST));
+        Checks.noLine("answer 16", Samples::everyKind, x -> x.answer(16, 0));
+        Checks.noLine("answer -1", Samples::everyKind, x -> x.answer(-1, MILLION + 1));
+        Checks.badArgument("answer too great", Samples::everyKind, x -> x.answer(0, MILLION + 1));
+        Checks.badArgument("answer negative", Samples::everyKind, x -> x.answer(15, -1));
+        Checks.badArgument("answer lowest", Samples::everyKind, x -> x.answer(15, LOWEST));
     }
 
     private static void kinds() {
-        TaxEngine x = Checks.made(LinesTest::sample);
+        TaxEngine x = Checks.made(Samples::everyKind);
         int[] kinds = {0, 0, 2, 6, 3, 4, 5, 1, 7, 8, 2, 0, 0, 0, 0, 0};
         for (int line = 0; line < 16; line++) {
             Checks.due("kindOf " + line, x.kindOf(line), kinds[line]);
         }
         x.define(7, TaxEngine.INPUT, 0, 0);
         Checks.due("kindOf 7", x.kindOf(7), TaxEngine.INPUT);
-        Checks.noLine("kindOf 16", LinesTest::sample, y -> y.kindOf(16));
-        Checks.noLine("kindOf -1", LinesTest::sample, y -> y.kindOf(-1));
+        Checks.noLine("kindOf 16", Samples::everyKind, y -> y.kindOf(16));
+        Checks.noLine("kindOf -1", Samples::everyKind, y -> y.kindOf(-1));
     }
 
     private static void valuesOfTwoLines() {
@@ -217,9 +195,9 @@ public final class LinesTest {
     }
 
     private static void valueRefuses() {
-        Checks.noLine("value 16", LinesTest::sample, x -> x.value(16));
-        Checks.noLine("value -1", LinesTest::sample, x -> x.value(-1));
-        Checks.noLine("value highest", LinesTest::sample, x -> x.value(HIGHEST));
+        Checks.noLine("value 16", Samples::everyKind, x -> x.value(16));
+        Checks.noLine("value -1", Samples::everyKind, x -> x.value(-1));
+        Checks.noLine("value highest", Samples::everyKind, x -> x.value(HIGHEST));
     }
 
     private static void dependence() {
@@ -238,14 +216,14 @@ public final class LinesTest {
         x.define(8, TaxEngine.LESSER, 15, 14);
         Checks.due("second", x.dependsOn(0, 14), true);
         Checks.due("not between", x.dependsOn(0, 9), false);
-        Checks.noLine("dependsOn 16", LinesTest::sample, y -> y.dependsOn(16, 0));
-        Checks.noLine("dependsOn other 16", LinesTest::sample, y -> y.dependsOn(0, 16));
-        Checks.noLine("dependsOn -1", LinesTest::sample, y -> y.dependsOn(-1, 0));
-        Checks.noLine("dependsOn other -1", LinesTest::sample, y -> y.dependsOn(0, -1));
+        Checks.noLine("dependsOn 16", Samples::everyKind, y -> y.dependsOn(16, 0));
+        Checks.noLine("dependsOn other 16", Samples::everyKind, y -> y.dependsOn(0, 16));
+        Checks.noLine("dependsOn -1", Samples::everyKind, y -> y.dependsOn(-1, 0));
+        Checks.noLine("dependsOn other -1", Samples::everyKind, y -> y.dependsOn(0, -1));
     }
 
     private static void influence() {
-        TaxEngine x = Checks.made(LinesTest::sample);
+        TaxEngine x = Checks.made(Samples::everyKind);
         Checks.due("of 0", x.influence(0), 2);
         Checks.due("of 1", x.influence(1), 6);
         Checks.due("of no input", x.influence(2), 0);
@@ -266,8 +244,8 @@ public final class LinesTest {
             y.define(line, TaxEngine.SUM, line - 1, line - 1);
         }
         Checks.due("what is capped stays", y.influence(0), 12);
-        Checks.noLine("influence 16", LinesTest::sample, z -> z.influence(16));
-        Checks.noLine("influence -1", LinesTest::sample, z -> z.influence(-1));
+        Checks.noLine("influence 16", Samples::everyKind, z -> z.influence(16));
+        Checks.noLine("influence -1", Samples::everyKind, z -> z.influence(-1));
     }
 
     static void row(TaxEngine x, int line, int... due) {
@@ -279,7 +257,7 @@ public final class LinesTest {
     }
 
     private static void why() {
-        TaxEngine x = Checks.made(LinesTest::sample);
+        TaxEngine x = Checks.made(Samples::everyKind);
         row(x, 0, 0);
         row(x, 2, 2, 0, 1);
         row(x, 3, 3, 2, 0, 1);
@@ -304,9 +282,9 @@ public final class LinesTest {
             y.define(line, TaxEngine.SUM, line + 1, 15);
         }
         row(y, 0, 0, 1, 15, 2, 3, 4, 5, 6, 7, 8, 9, 10, 11, 12, 13, 14);
-        Checks.noLine("why 16", LinesTest::sample, z -> z.why(16, 0));
-        Checks.noLine("why -1", LinesTest::sample, z -> z.why(-1, 0));
-        Checks.noLine("why at -1", LinesTest::sample, z -> z.why(0, -1));
-        Checks.noLine("why at lowest", LinesTest::sample, z -> z.why(15, LOWEST));
+        Checks.noLine("why 16", Samples::everyKind, z -> z.why(16, 0));
+        Checks.noLine("why -1", Samples::everyKind, z -> z.why(-1, 0));
+        Checks.noLine("why at -1", Samples::everyKind, z -> z.why(0, -1));
+        Checks.noLine("why at lowest", Samples::everyKind, z -> z.why(15, LOWEST));
     }
 }

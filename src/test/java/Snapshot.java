@@ -1,72 +1,79 @@
-/** All that shows of an engine, as a text. It uses the engine up: years are closed and credits dropped. */
+import java.util.List;
+
+/**
+ * All that shows of an engine, as texts. Each view uses its engine up (years are closed and credits
+ * dropped) and makes at most some 350 calls, so that with those before it they stay within 512.
+ */
 final class Snapshot {
+    interface View {
+        String of(TaxEngine engine);
+    }
+
+    static final List<View> VIEWS = List.of(Snapshot::lines, Snapshot::uses, Snapshot::money, Snapshot::years);
+
     private static final int LINES = 16;
 
     private Snapshot() {
     }
 
-    static String of(TaxEngine engine) {
+    private static String lines(TaxEngine engine) {
         StringBuilder text = new StringBuilder();
-        addLines(text, engine);
-        addCircles(text, engine);
-        addBrackets(text, engine);
-        addCredits(text, engine);
-        addYears(text, engine);
-        addAnswers(text, engine);
-        return text.toString();
-    }
-
-    private static void addLines(StringBuilder text, TaxEngine engine) {
         for (int line = 0; line < LINES; line++) {
             text.append(" line ").append(line).append(" kind ").append(engine.kindOf(line));
             text.append(" value ").append(engine.value(line)).append(" influence ").append(engine.influence(line));
             text.append(" why");
-            for (int place = 0; place <= LINES && engine.why(line, place) != TaxEngine.NONE; place++) {
-                text.append(' ').append(engine.why(line, place));
+            int reason = line;
+            for (int place = 0; place <= LINES && reason != TaxEngine.NONE; place++) {
+                reason = engine.why(line, place);
+                text.append(' ').append(reason);
             }
         }
+        return text.toString();
     }
 
-    private static void addCircles(StringBuilder text, TaxEngine engine) {
-        text.append(" uses ");
+    private static String uses(TaxEngine engine) {
+        StringBuilder text = new StringBuilder();
         for (int line = 0; line < LINES; line++) {
-            for (int other = 0; other < 5; other++) {
+            text.append(" uses ");
+            for (int other = 0; other < LINES; other++) {
                 text.append(engine.dependsOn(line, other) ? '1' : '0');
             }
             if (engine.kindOf(line) == TaxEngine.LIMIT) {
-                text.append(" bound ").append(engine.boundFor(line, 7)).append(' ');
+                text.append(" bound ").append(engine.boundFor(line, 7));
             }
         }
+        return text.toString();
     }
 
-    private static void addBrackets(StringBuilder text, TaxEngine engine) {
-        text.append(" tax");
-        for (int value = 1; value <= 1000000000; value *= 10) {
-            text.append(' ').append(engine.taxOn(value));
+    private static String money(TaxEngine engine) {
+        StringBuilder text = new StringBuilder(" tax");
+        for (int value = 1; value <= 100000000; value *= 10) {
+            text.append(' ').append(engine.taxOn(value)).append(' ').append(engine.taxOn(3 * value));
         }
         text.append(" brackets ").append(engine.dropBrackets());
-    }
-
-    private static void addCredits(StringBuilder text, TaxEngine engine) {
         boolean more = true;
         while (more) {
             text.append(" after ").append(engine.afterCredits(0)).append(" sum ").append(engine.bestSum(0));
-            text.append(" none used ").append(engine.bestSum(15));
+            text.append(" none used ").append(engine.bestSum(15)).append(" first ");
+            text.append(Checks.thrownBy(engine, x -> text.append(x.creditAt(0, 0))));
             more = Checks.thrownBy(engine, TaxEngine::dropCredit).equals("nothing");
         }
+        return text.toString();
     }
 
-    private static void addYears(StringBuilder text, TaxEngine engine) {
-        text.append(" year ").append(engine.year()).append(" carried");
+    private static String years(TaxEngine engine) {
+        StringBuilder text = new StringBuilder(" year ").append(engine.year()).append(" carried");
+        for (int place = 0; place < 9; place++) {
+            int each = place;
+            text.append(' ').append(Checks.thrownBy(engine, x -> text.append(x.carriedAt(each))));
+        }
         for (int closed = 0; closed <= 21; closed++) {
             text.append(' ').append(engine.carried()).append(" spent ").append(engine.closeYear());
         }
-    }
-
-    private static void addAnswers(StringBuilder text, TaxEngine engine) {
         text.append(" answers");
         for (int line = 0; line < LINES; line++) {
             text.append(' ').append(engine.answer(line, 0));
         }
+        return text.toString();
     }
 }
