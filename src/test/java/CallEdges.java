@@ -12,6 +12,7 @@ final class CallEdges {
     static void tests(Sentences doc) {
         doc.under("What it is");
         doc.test("at most 512 calls after it has been made", CallEdges::eachCallAsThe512th);
+        doc.test("at most 512 calls after it has been made", CallEdges::theSameQuestion512Times);
         doc.test("at most 512 calls after it has been made", CallEdges::changesUpToThe512th);
         doc.under("Terms");
         doc.test("Questions change nothing.", CallEdges::questionsChangeNothing);
@@ -100,6 +101,19 @@ final class CallEdges {
                 questions.get(call % questions.size()).applyAsInt(x);
             }
             Checks.due("call " + number, answerOf(x, last), answerOf(Checks.made(Samples::everyKind), last));
+            number++;
+        }
+    }
+
+    private static void theSameQuestion512Times() {
+        int number = 0;
+        for (ToIntFunction<TaxEngine> question : questions()) {
+            TaxEngine x = Checks.made(Samples::everyKind);
+            int first = question.applyAsInt(x);
+            for (int call = Samples.CALLS_OF_EVERY_KIND + 2; call < LAST_CALL; call++) {
+                question.applyAsInt(x);
+            }
+            Checks.due("question " + number, question.applyAsInt(x), first);
             number++;
         }
     }

@@ -92,11 +92,10 @@ final class CircleEdges {
         doc.test("just one of them has to be a LIMIT", () -> {
             Checks.badState("none", Samples::fifteen, x -> x.define(0, TaxEngine.SHARE, 1, 1000));
             Checks.badState("two, one behind the other", Samples::half, x -> x.define(3, TaxEngine.LIMIT, 0, 2));
-            Checks.badState("two side by side", x -> {
-                Samples.half(x);
-                x.define(5, TaxEngine.SHARE, 3, 100);
-                x.define(4, TaxEngine.LESSER, 3, 5);
-            }, x -> x.define(5, TaxEngine.LIMIT, 0, 3));
+            for (int side : new int[] {2, 13}) {
+                Checks.badState("two side by side", x -> sideBySide(x, side), x -> x.define(side, TaxEngine.LIMIT, 0, 8));
+                Checks.taken("one", x -> sideBySide(x, side), x -> x.define(side, TaxEngine.LESSER, 0, 8));
+            }
             Checks.badState("two, where first of the second is of the circle", Samples::half, x -> x.define(4, TaxEngine.LIMIT, 3, 0));
             Checks.badState("two circles become one", CircleEdges::twoCircles, x -> x.define(0, TaxEngine.REST, 15, 5));
         });
@@ -124,6 +123,14 @@ final class CircleEdges {
             Checks.badState("second rises", x -> x.define(14, TaxEngine.REST, 0, 13), x -> x.define(0, TaxEngine.LIMIT, 15, 14));
             Checks.taken("second falls", x -> x.define(14, TaxEngine.REST, 13, 0), x -> x.define(0, TaxEngine.LIMIT, 15, 14));
         });
+    }
+
+    /** 7 = LIMIT(1, 9), 8 = 0 less 7, and 9 is the lesser one of 8 and of a side line, which uses 8 too. */
+    private static void sideBySide(TaxEngine x, int side) {
+        x.define(8, TaxEngine.REST, 0, 7);
+        x.define(side, TaxEngine.SHARE, 8, 100);
+        x.define(9, TaxEngine.LESSER, 8, side);
+        x.define(7, TaxEngine.LIMIT, 1, 9);
     }
 
     /** 2 = LIMIT(1, 3), 3 = 0 less 2; and, behind it, 5 = LIMIT(1, 6), 6 = 3 less 5. */
@@ -237,6 +244,7 @@ final class CircleEdges {
             checkRises("by both", x -> x.define(1, TaxEngine.REST, 0, 2));
         });
         doc.test("No line may rise and fall at the same time.", CircleEdges::risingAndFalling);
+        doc.test("at the same time", CircleEdges::risingAfterFalling);
     }
 
     private static void risingAndFalling() {
@@ -256,10 +264,42 @@ final class CircleEdges {
             x.define(4, TaxEngine.REST, 13, 3);
             x.define(14, TaxEngine.LESSER, 1, 4);
         });
+        checkOpen("two lines rise, and the first one falls when turned", false, x -> {
+            x.define(1, TaxEngine.SHARE, 0, 0);
+            x.define(3, TaxEngine.REST, 13, 1);
+            x.define(5, TaxEngine.SHARE, 0, 0);
+            x.define(14, TaxEngine.SUM, 5, 3);
+        });
+        checkOpen("a line between does both, and its rest does not show it", false, x -> {
+            x.define(3, TaxEngine.REST, 13, 0);
+            x.define(4, TaxEngine.LESSER, 2, 5);
+            x.define(5, TaxEngine.SHARE, 0, 0);
+            x.define(14, TaxEngine.REST, 3, 4);
+        });
         checkOpen("what falls twice only falls", true, x -> {
             x.define(1, TaxEngine.SUM, 2, 2);
             x.define(14, TaxEngine.LESSER, 2, 1);
         });
+    }
+
+    /** What a line did in a circle that stands no more, or that was refused, does not count. */
+    private static void risingAfterFalling() {
+        TaxEngine x = new TaxEngine();
+        x.answer(13, 1000);
+        x.answer(15, 900);
+        x.define(2, TaxEngine.REST, 13, 0);
+        x.define(14, TaxEngine.REST, 2, 0);
+        x.define(0, TaxEngine.LIMIT, 15, 14);
+        Checks.due("line 2 falls: x <= 1000 - 2x", x.value(0), 333);
+        Checks.due("refused, line 14 would rise", Checks.thrownBy(x, y -> y.define(14, TaxEngine.REST, 13, 2)), "java.lang.IllegalStateException");
+        x.define(0, TaxEngine.INPUT, 0, 0);
+        x.define(2, TaxEngine.SHARE, 0, 1000);
+        x.define(14, TaxEngine.REST, 13, 2);
+        x.define(0, TaxEngine.LIMIT, 15, 14);
+        Checks.due("line 2 rises: x <= 1000 - x", x.value(0), 500);
+        Checks.due("refused, line 14 would do both", Checks.thrownBy(x, y -> y.define(14, TaxEngine.REST, 0, 2)), "java.lang.IllegalStateException");
+        x.define(14, TaxEngine.REST, 13, 0);
+        Checks.due("line 14 falls by another one", x.value(0), 500);
     }
 
     /** Line 0 rises and line 2 falls with it; the recipe makes line 14, by which line 0 may become a LIMIT, or not. */

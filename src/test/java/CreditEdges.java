@@ -34,15 +34,16 @@ final class CreditEdges {
             checkOrder(x, 0, 0, 1, 2, 3, 4);
         });
         doc.test("Against a tax, credits are used in some order: of each as much as its amount, or as there is left of the tax.", () -> {
-            checkSum(0, 1000 + 0);
-            checkSum(1, 1 + 1000);
-            checkSum(499, 499 + 1000);
-            checkSum(500, 500 + 1000);
-            checkSum(501, 501 + 999);
-            checkSum(1499, 1499 + 1);
-            checkSum(1500, 1500);
-            checkSum(1501, 1500);
-            checkSum(MILLION, 1500);
+            int[][] used = {{0, 0}, {1, 1}, {499, 499}, {500, 500}, {501, 501}, {999, 999}, {1000, 1000}, {1001, 1001},
+                {1499, 1499}, {1500, 1500}, {1501, 1500}, {MILLION, 1500}};
+            for (int[] each : used) {
+                TaxEngine x = new TaxEngine();
+                x.addCredit(1000, 0);
+                x.addCredit(500, 0);
+                x.answer(0, each[0]);
+                Checks.due("used against " + each[0], x.bestSum(0), each[1]);
+                Checks.due("left of " + each[0], x.afterCredits(0), each[0] - each[1]);
+            }
         });
         doc.test("What is not used of a credit is worth its worth, multiplied by that, divided by 1000 and rounded down.", () -> {
             int[][] worths = {{1, 1000, 1}, {1, 999, 0}, {1, 0, 0}, {999, 1, 0}, {1000, 1, 1}, {1999, 1, 1}, {MILLION, 0, 0},
@@ -84,16 +85,16 @@ final class CreditEdges {
                 y.answer(0, tax);
                 checkOrder(y, 0, 0, 1, 2, 3, 4);
             }
+            TaxEngine z = Checks.made(CreditEdges::two);
+            z.answer(15, 1);
+            checkOrder(z, 15, 1, 0);
+            z.dropCredit();
+            z.dropCredit();
+            z.addCredit(MILLION, 0);
+            z.addCredit(1, 999);
+            checkOrder(z, 0, 0, 1);
+            Checks.due("the sum of which is 0", z.bestSum(0), 0);
         });
-    }
-
-    /** 500 that are worth nothing, which are used first, and 1000 that are worth all. */
-    private static void checkSum(int tax, int due) {
-        TaxEngine x = new TaxEngine();
-        x.addCredit(1000, 1000);
-        x.addCredit(500, 0);
-        x.answer(0, tax);
-        Checks.due("against " + tax, x.bestSum(0), due);
     }
 
     /** Each is worth less than the one before. */
@@ -101,6 +102,12 @@ final class CreditEdges {
         for (int each = 0; each < 5; each++) {
             x.addCredit(100, 1000 - 200 * each);
         }
+    }
+
+    /** The first one is worth all, the second one nothing. */
+    private static void two(TaxEngine x) {
+        x.addCredit(10, 1000);
+        x.addCredit(10, 0);
     }
 
     private static void checkOrder(TaxEngine x, int line, int... due) {
@@ -191,6 +198,10 @@ final class CreditEdges {
             checkOrder(x, 15, 4, 0, 1, 2, 3);
             checkOrder(x, 1, 0, 1, 2, 3, 4);
             checkOrder(Checks.made(Samples::full), 0, 0, 1, 2, 3, 4);
+            TaxEngine y = Checks.made(CreditEdges::two);
+            checkOrder(y, 0, 0, 1);
+            y.answer(0, 1);
+            checkOrder(y, 0, 1, 0);
         });
         doc.test("line: 0 to 15", () -> Checks.lineRange(Samples::everyKind, (x, line) -> x.creditAt(line, 0)));
         doc.test("place: 0 for the first credit", () -> {

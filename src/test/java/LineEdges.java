@@ -181,6 +181,14 @@ final class LineEdges {
                     Checks.due(line + " on " + other, x.dependsOn(line, other), line < other);
                 }
             }
+            x.answer(15, MILLION);
+            Checks.due("the value of the last one, handed on 15 times", x.value(0), MILLION);
+            TaxEngine y = Checks.made(LineEdges::chainBack);
+            for (int line = 0; line < 16; line++) {
+                for (int other = 0; other < 16; other++) {
+                    Checks.due(line + " on " + other + ", the other way round", y.dependsOn(line, other), other < line);
+                }
+            }
         });
         doc.test("A line is circular if it depends on itself.", () -> {
             TaxEngine x = Checks.made(Samples::fifteen);
@@ -360,6 +368,12 @@ final class LineEdges {
     private static void chain(TaxEngine x) {
         for (int line = 0; line < 15; line++) {
             x.define(line, TaxEngine.SHARE, line + 1, 1000);
+        }
+    }
+
+    private static void chainBack(TaxEngine x) {
+        for (int line = 15; line > 0; line--) {
+            x.define(line, TaxEngine.SHARE, line - 1, 1000);
         }
     }
 

@@ -247,14 +247,14 @@ final class QuestionEdges {
             }
         });
         doc.test("for LESSER, GREATER and LIMIT the line first if its value is the value of the line, otherwise the line second", () -> {
-            checkTold(TaxEngine.LESSER, 6, 7, 14);
-            checkTold(TaxEngine.LESSER, 7, 7, 14);
+            checkTold(TaxEngine.LESSER, 6, 7, 0);
+            checkTold(TaxEngine.LESSER, 7, 7, 0);
             checkTold(TaxEngine.LESSER, 7, 6, 15);
             checkTold(TaxEngine.GREATER, 6, 7, 15);
-            checkTold(TaxEngine.GREATER, 7, 7, 14);
-            checkTold(TaxEngine.GREATER, 7, 6, 14);
-            checkTold(TaxEngine.LIMIT, 6, 7, 14);
-            checkTold(TaxEngine.LIMIT, 7, 7, 14);
+            checkTold(TaxEngine.GREATER, 7, 7, 0);
+            checkTold(TaxEngine.GREATER, 7, 6, 0);
+            checkTold(TaxEngine.LIMIT, 6, 7, 0);
+            checkTold(TaxEngine.LIMIT, 7, 7, 0);
             checkTold(TaxEngine.LIMIT, 7, 6, 15);
             TaxEngine x = Checks.made(Samples::fifteen);
             x.answer(15, 1);
@@ -267,12 +267,13 @@ final class QuestionEdges {
         });
     }
 
+    /** Line 7 is told by line 0 or by line 15. */
     private static void checkTold(int kind, int first, int second, int due) {
         TaxEngine x = new TaxEngine();
-        x.answer(14, first);
+        x.answer(0, first);
         x.answer(15, second);
-        x.define(0, kind, 14, 15);
-        LinesTest.row(x, 0, 0, due);
+        x.define(7, kind, 0, 15);
+        LinesTest.row(x, 7, 7, due);
     }
 
     private static void whyPlaces(Sentences doc) {

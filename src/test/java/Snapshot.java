@@ -50,14 +50,14 @@ final class Snapshot {
         for (int value = 1; value <= 100000000; value *= 10) {
             text.append(' ').append(engine.taxOn(value)).append(' ').append(engine.taxOn(3 * value));
         }
-        text.append(" brackets ").append(engine.dropBrackets());
-        boolean more = true;
-        while (more) {
+        text.append(" brackets ").append(engine.dropBrackets()).append(' ').append(engine.bracket(1, 1000));
+        for (int dropped = 0; dropped < 6; dropped++) {
             text.append(" after ").append(engine.afterCredits(0)).append(" sum ").append(engine.bestSum(0));
             text.append(" none used ").append(engine.bestSum(15)).append(" first ");
             text.append(Checks.thrownBy(engine, x -> text.append(x.creditAt(0, 0))));
-            more = Checks.thrownBy(engine, TaxEngine::dropCredit).equals("nothing");
+            text.append(" left ").append(Checks.thrownBy(engine, x -> text.append(x.dropCredit())));
         }
+        text.append(" number ").append(engine.addCredit(9, 1000)).append(" sum ").append(engine.bestSum(15));
         return text.toString();
     }
 
@@ -70,7 +70,7 @@ final class Snapshot {
         for (int closed = 0; closed <= 21; closed++) {
             text.append(' ').append(engine.carried()).append(" spent ").append(engine.closeYear());
         }
-        text.append(" answers");
+        text.append(" carried ").append(engine.carry(3, engine.year())).append(" answers");
         for (int line = 0; line < LINES; line++) {
             text.append(' ').append(engine.answer(line, 0));
         }

@@ -71,14 +71,14 @@ final class YearEdges {
             x.carry(100, 5);
             x.answer(0, 80);
             x.answer(2, 90);
-            x.define(15, TaxEngine.CARRY, 0, 0);
-            x.define(3, TaxEngine.REST, 2, 15);
-            x.define(4, TaxEngine.CARRY, 3, 0);
+            x.define(1, TaxEngine.CARRY, 0, 0);
+            x.define(3, TaxEngine.REST, 2, 1);
+            x.define(15, TaxEngine.CARRY, 3, 0);
             Checks.due("80, and 10 of what is left of the 90", x.closeYear(), 90);
-            x.define(15, TaxEngine.LESSER, 0, 0);
-            Checks.due("the line 4 alone", x.closeYear(), 10);
+            x.define(1, TaxEngine.LESSER, 0, 0);
+            Checks.due("line 15 alone", x.closeYear(), 10);
             x.carry(100, 5);
-            x.define(4, TaxEngine.INPUT, 0, 0);
+            x.define(15, TaxEngine.INPUT, 0, 0);
             Checks.due("no line that is CARRY", x.closeYear(), 0);
         });
         doc.test("for each such line by rising number, as much as its value, or as there is left", () -> {
