@@ -364,9 +364,9 @@ final class LineEdges {
 
     // ---- helpers
 
-    /** Each line uses the next one. */
+    /** Each line uses the next one; line 0 comes last, after it stood ahead of the chain as an input. */
     private static void chain(TaxEngine x) {
-        for (int line = 0; line < 15; line++) {
+        for (int line = 14; line >= 0; line--) {
             x.define(line, TaxEngine.SHARE, line + 1, 1000);
         }
     }
