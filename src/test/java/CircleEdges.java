@@ -96,6 +96,11 @@ final class CircleEdges {
                 Checks.badState("two side by side", x -> sideBySide(x, side), x -> x.define(side, TaxEngine.LIMIT, 0, 8));
                 Checks.taken("one", x -> sideBySide(x, side), x -> x.define(side, TaxEngine.LESSER, 0, 8));
             }
+            for (int end : new int[] {0, 15}) {
+                Checks.badState("two, one of them line " + end, x -> behind(x, end), x -> x.define(7, TaxEngine.LIMIT, 14, 8));
+                Checks.badState("two, the later one line " + end, x -> aheadOf(x, end), x -> x.define(end, TaxEngine.LIMIT, 14, 8));
+                Checks.taken("one, line " + end, x -> behind(x, end), x -> x.define(7, TaxEngine.LESSER, 14, 8));
+            }
             Checks.badState("two, where first of the second is of the circle", Samples::half, x -> x.define(4, TaxEngine.LIMIT, 3, 0));
             Checks.badState("two circles become one", CircleEdges::twoCircles, x -> x.define(0, TaxEngine.REST, 15, 5));
         });
@@ -131,6 +136,20 @@ final class CircleEdges {
         x.define(side, TaxEngine.SHARE, 8, 100);
         x.define(9, TaxEngine.LESSER, 8, side);
         x.define(7, TaxEngine.LIMIT, 1, 9);
+    }
+
+    /** The limit is LIMIT(13, 7), 7 is all of 8, and 8 = 14 less the limit. */
+    private static void behind(TaxEngine x, int limit) {
+        x.define(7, TaxEngine.SHARE, 8, 1000);
+        x.define(8, TaxEngine.REST, 14, limit);
+        x.define(limit, TaxEngine.LIMIT, 13, 7);
+    }
+
+    /** The same the other way round: 7 is the limit, and the line is between. */
+    private static void aheadOf(TaxEngine x, int line) {
+        x.define(line, TaxEngine.SHARE, 8, 1000);
+        x.define(8, TaxEngine.REST, 14, 7);
+        x.define(7, TaxEngine.LIMIT, 13, line);
     }
 
     /** 2 = LIMIT(1, 3), 3 = 0 less 2; and, behind it, 5 = LIMIT(1, 6), 6 = 3 less 5. */

@@ -1,7 +1,11 @@
+import java.io.IOException;
 import java.lang.reflect.Constructor;
 import java.lang.reflect.Field;
 import java.lang.reflect.Method;
 import java.lang.reflect.Modifier;
+import java.nio.file.Files;
+import java.nio.file.Path;
+import java.util.List;
 import java.util.Set;
 import java.util.TreeSet;
 
@@ -33,12 +37,34 @@ public final class FaceTest {
         "int bestSum(int) IndexOutOfBoundsException",
     };
 
-    public static void main(String[] args) {
+    public static void main(String[] args) throws IOException {
         Checks.due("the face", face().toString(), new TreeSet<>(Set.of(FACE)).toString());
         Checks.due("final and public", Modifier.isFinal(TaxEngine.class.getModifiers())
             && Modifier.isPublic(TaxEngine.class.getModifiers()), true);
         constants();
+        asWritten();
         Checks.end();
+    }
+
+    /** Each row of the document's face stands in the class, with the same names and in the same order. */
+    private static void asWritten() throws IOException {
+        List<String> source = Files.readAllLines(Path.of("src/main/java/TaxEngine.java"));
+        int from = 0;
+        int rows = 0;
+        for (String row : Doc.read(Path.of("../shared/DOC.md")).under("The public face")) {
+            if (row.equals("}")) {
+                continue;
+            }
+            String written = row.contains("(") ? row.replace(";", " {") : row;
+            int found = from;
+            while (found < source.size() && !source.get(found).strip().equals(written)) {
+                found++;
+            }
+            Checks.due("as the document writes it: " + row, found < source.size(), true);
+            from = found < source.size() ? found + 1 : from;
+            rows++;
+        }
+        Checks.due("rows of the face", rows, 1 + 2 + FACE.length - 10);
     }
 
     private static void constants() {
